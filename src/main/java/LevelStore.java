@@ -12,7 +12,6 @@ public final class LevelStore {
     private static final int NUMBER_LIMIT = 60000;
     private static final int TABLE_ROOM = 24;
     private static final int NO_VIEW = -1;
-    private static final int LEVELS = 4;
     private static final int LAST_LEVEL = 3;
     private static final int NO_LEVEL = -1;
     private static final int FIELD_BYTES = 1500;
@@ -46,15 +45,12 @@ public final class LevelStore {
 
     public LevelStore() {
         logged = new Row(TABLE_ROOM);
-        synced = 0;
-        latest = 0;
         views = new int[] {NO_VIEW, NO_VIEW, NO_VIEW};
         levels = new FileRow[] {new FileRow(), new FileRow(), new FileRow(), new FileRow()};
         spare = new FileRow();
         field = new Field();
         reading = new Reading();
         job = new Job();
-        nextFileNumber = 0;
     }
 
     // ---- writing
@@ -420,7 +416,7 @@ public final class LevelStore {
     // ---- what is told, from within
 
     private FileRow levelAt(int level) {
-        return level >= 0 && level < LEVELS && level < levels.length ? levels[level] : null;
+        return level >= 0 && level < levels.length ? levels[level] : null;
     }
 
     private SortedFile fileAt(int level, int i) {
@@ -464,7 +460,6 @@ public final class LevelStore {
             keys = new int[length];
             numbers = new int[length];
             values = new int[length];
-            size = 0;
         }
 
         boolean has(int k) {
@@ -590,9 +585,6 @@ public final class LevelStore {
 
         SortedFile() {
             entries = new Row(FILE_ROOM);
-            number = 0;
-            place = 0;
-            length = 0;
         }
 
         int leastKey() {
@@ -741,7 +733,6 @@ public final class LevelStore {
             bytes = new int[FIELD_BYTES];
             taken = new boolean[FIELD_BYTES];
             code = new int[CODE_ROOM];
-            codeLength = 0;
         }
 
         boolean has(int i) {
@@ -857,9 +848,6 @@ public final class LevelStore {
         Reading() {
             numbers = new int[KEYS];
             values = new int[KEYS];
-            from = 0;
-            to = 0;
-            upTo = 0;
         }
 
         void begin(int leastKey, int greatestKey, int number) {
@@ -922,18 +910,10 @@ public final class LevelStore {
             leftOut = new boolean[SOURCE_ROOM];
             making = new Row(FILE_ROOM);
             made = new FileRow();
-            there = false;
-            level = NO_LEVEL;
-            target = NO_LEVEL;
-            levelFrom = 0;
-            levelTo = 0;
-            targetFrom = 0;
-            targetTo = 0;
-            done = 0;
         }
 
+        /** Its sources are still to be told. */
         void begin(int fromLevel, int intoLevel) {
-            end();
             there = true;
             level = fromLevel;
             target = intoLevel;
@@ -942,12 +922,6 @@ public final class LevelStore {
         /** The files that it made have been taken over, or have gone. */
         void end() {
             there = false;
-            level = NO_LEVEL;
-            target = NO_LEVEL;
-            levelFrom = 0;
-            levelTo = 0;
-            targetFrom = 0;
-            targetTo = 0;
             sources.size = 0;
             done = 0;
             making.size = 0;

@@ -217,7 +217,9 @@ public final class PromiseTest {
         LevelStore x = new LevelStore();
         putRange(x, 0, 2, 1);
         x.sync();
-        due("hold(1)", x.hold(1), 3);
+        for (int v = 0; v < 3; v++) {
+            due("hold(" + v + ")", x.hold(v), 3);
+        }
         flushAll(x);
         putRange(x, 3, 5, 1);
         x.flush();
@@ -229,7 +231,9 @@ public final class PromiseTest {
         due("count(7)", x.count(7), 1);
         due("stop", x.stop(), STATE);
         due("install", x.install(), STATE);
-        due("view(1, 0)", x.view(1, 0), UNKNOWN);
+        for (int v = 0; v < 3; v++) {
+            due("view(" + v + ", 0)", x.view(v, 0), UNKNOWN);
+        }
         due("hold(1)", x.hold(1), 6);
         due("files(0)", x.files(0), 1);
         due("flush", x.flush(), 3);
@@ -598,6 +602,9 @@ public final class PromiseTest {
         due("no file is made", x.count(6), 0);
         due("install of none", x.install(), 0);
         due("count(3)", x.count(3), 0);
+        x.drop(2);
+        flushAll(x);
+        dueFile(x, 0, 0, 2, 2);
     }
 
     private static void graveOverAValueInView() {
@@ -883,6 +890,11 @@ public final class PromiseTest {
             due("byteAt(" + i + ")", x.byteAt(i), BAD);
         }
         due("byteAt(1499)", x.byteAt(1499), 0);
+        x.put(0, 0);
+        x.put(1, 1);
+        x.put(2, -2);
+        flushAll(x);
+        dueBytes(x, 13, 3, 0, 10, 0, 1, 12, 2, 1, 14, 3, 46);
     }
 
     private static void longShortNumbers() {
@@ -955,47 +967,29 @@ public final class PromiseTest {
 
     private static void exactRoom() {
         LevelStore x = new LevelStore();
-        int made = 0;
-        // Graves of keys under 128, of numbers 1 .. 63: two bytes each, and two for a file.
-        for (int k = 0; k < 20; k++) {
-            x.drop(k);
-        }
-        flushAll(x);
-        made += 42;
-        due("bytes", x.count(4), made);
-        while (1500 - made >= 300) {
+        for (int f = 0; f < 8 && x.count(4) <= 1200; f++) {
             for (int k = 0; k < 24; k++) {
                 x.put(999 - k, 100000);
             }
-            x.flush();
-            x.work(500);
-            x.install();
-            made = x.count(4);
+            flushAll(x);
         }
-        int rest = 1500 - made;
-        // An entry of a key under 128 has 1 + 2 bytes as a grave, two more for the file.
-        int graves = (rest - 2) / 3;
-        int over = (rest - 2) % 3;
-        int put = 0;
-        while (graves > 24) {
-            int now = Math.min(20, graves - 3);
-            for (int k = 0; k < now; k++) {
-                x.drop(k + 1);
+        // Numbers are above 63 now: a grave of a low key takes three bytes, and its file two more.
+        for (int f = 0; f < 8 && 1500 - x.count(4) > 2 + 3 * 24; f++) {
+            for (int k = 0; k < Math.min(20, (1500 - x.count(4)) / 3 - 5); k++) {
+                x.drop(k);
             }
             flushAll(x);
-            rest = 1500 - x.count(4);
-            graves = (rest - 2) / 3;
-            over = (rest - 2) % 3;
         }
-        for (int k = 0; k < graves; k++) {
+        int rest = 1500 - x.count(4) - 2;
+        int over = rest % 3;
+        for (int k = 0; k < rest / 3; k++) {
             if (k == 0 && over > 0) {
-                x.put(0, over == 1 ? 0 : 64);
+                x.put(k, over == 1 ? 0 : 64);
             } else {
                 x.drop(k);
             }
-            put++;
         }
-        due("flush", x.flush(), put);
+        due("flush", x.flush(), rest / 3);
         due("it fits to the last byte", x.work(500), 0);
         due("install", x.install(), 1);
         due("the field is full", x.count(4), 1500);
