@@ -40,6 +40,7 @@ public final class PromiseTest {
         endsOnlyAheadOfKeptEntries();
         workRefusals();
         workFailsWhenFull();
+        workFailsAheadOfTheNextKey();
         installRefusals();
         stopGivesNumbersBack();
         highLevels();
@@ -732,6 +733,24 @@ public final class PromiseTest {
         due("flush", x.flush(), 24);
     }
 
+    private static void workFailsAheadOfTheNextKey() {
+        LevelStore x = crowded();
+        x.merge(0, 0);
+        int done = 0;
+        int made = 0;
+        for (; done < 216; done++) {
+            int left = x.work(1);
+            if (left == FULL) {
+                break;
+            }
+            due("work(1)", left, 215 - done);
+            made = x.count(6);
+        }
+        due("some were made", made > 2 && made < 20 ? 1 : 0, 1);
+        due("it fails as the next file ends", done, 8 * (made + 1));
+        due("count(5)", x.count(5), NONE);
+    }
+
     private static void installRefusals() {
         LevelStore x = new LevelStore();
         due("no job", x.install(), STATE);
@@ -771,6 +790,9 @@ public final class PromiseTest {
         finish(x);
         due("number", x.file(1, 0, 0), 1);
         due("place", x.file(1, 0, 4), 20 * 3 + 2);
+        due("nothing is left of the one stopped", x.file(1, 0, 2), 0);
+        due("count(8)", x.count(8), 20);
+        dueFile(x, 1, 2, 16, 17, 17, 18, 18, 19, 19, 20);
     }
 
     // ---- promises 16 to 19
@@ -939,13 +961,13 @@ public final class PromiseTest {
         sink(x, 1, 500);
         due("the first room is free again", x.file(1, 1, 4), 7);
         x.put(900, 1);
-        x.put(901, 1);
+        x.drop(901);
         flushAll(x);
-        due("a longer one: 9 bytes do not go into 7", x.file(0, 0, 4), 28);
+        due("a longer one: 8 bytes do not go into 7", x.file(0, 0, 4), 28);
         x.put(910, 1);
         flushAll(x);
         due("a short one does", x.file(0, 1, 4), 0);
-        due("count(4)", x.count(4), 14 + 7 + 9 + 6);
+        due("count(4)", x.count(4), 14 + 7 + 8 + 6);
         due("check", x.check(), 0);
     }
 
