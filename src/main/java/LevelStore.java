@@ -147,7 +147,7 @@ public final class LevelStore {
             return STATE;
         }
         job.begin(NO_LEVEL, 0);
-        job.targetFrom = levels[0].size();
+        job.targetFrom = files(0);
         job.targetTo = job.targetFrom;
         for (int k = 0; k < logged.size; k++) {
             job.sources.insert(logged.key(k), logged.number(k), logged.value(k));
