@@ -8,11 +8,12 @@ import java.util.TreeMap;
 import java.util.TreeSet;
 import java.util.function.Predicate;
 
-// Long runs of chosen calls on LevelStore and on a second, slow store; every answer must be the same.
+// Runs of chosen calls on LevelStore and on a second, slow store; every answer must be the same.
 public final class ModelTest {
     private static final int UNKNOWN = -1000001, BAD = -1000002, STATE = -1000003, FULL = -1000004, NONE = -1000009;
-    private static final int RUNS = 1500;
-    private static final int CALLS = 512;
+    private static final int RUNS = 2500;
+    // One step of a run makes up to so many calls.
+    private static final int STEP = 30;
 
     /** An entry; its value is NONE if it is a grave. */
     private record Entry(int key, int number, int value) {
@@ -322,8 +323,9 @@ public final class ModelTest {
 
     /** Both stores side by side, and the choice of calls. */
     private static final class Pair {
-        final LevelStore x = new LevelStore();
+        final Store x = new Store();
         final Model m = new Model();
+        final List<Telling.Call> calls = new ArrayList<>();
         final Random random;
         final int run;
         final int keySpan;
@@ -331,8 +333,9 @@ public final class ModelTest {
         final int graves;
         final int haste;
         final int wild;
+        final int spared;
         final boolean crowding;
-        int calls = 0;
+        Store again;
 
         Pair(int run) {
             this.run = run;
@@ -344,6 +347,7 @@ public final class ModelTest {
             graves = crowding ? 5 : pick(0, 10, 30, 60, 95);
             haste = pick(1, 4, 30, 500);
             wild = pick(2, 10, 40);
+            spared = STEP + pick(0, 50, 100, crowding ? 100 : 300);
         }
 
         int pick(int... of) {
@@ -367,93 +371,99 @@ public final class ModelTest {
             return chance(wild / 2) ? near(-100000, 100000) : random.nextInt(2 * valueSpan + 1) - valueSpan;
         }
 
-        void due(String call, int got, int want) {
-            calls++;
+        void call(Telling.Call call, int want) {
+            calls.add(call);
+            due(call.on(x), want);
+        }
+
+        void due(int got, int want) {
             answers++;
             if (got != want) {
                 wrong++;
                 if (wrong < 50) {
-                    System.out.println("run " + run + ", call " + calls + ": " + call + " answered " + got + ", due is " + want);
+                    System.out.println("run " + run + ", behind " + calls.size() + " calls: " + Store.lastCall()
+                        + " answered " + got + ", due is " + want);
                 }
             }
         }
 
         void write() {
             int key = key();
+            int value = value();
             if (chance(graves)) {
-                due("drop(" + key + ")", x.drop(key), m.write(key, 0, true));
+                call(y -> y.drop(key), m.write(key, 0, true));
             } else {
-                int value = value();
-                due("put(" + key + ", " + value + ")", x.put(key, value), m.write(key, value, false));
+                call(y -> y.put(key, value), m.write(key, value, false));
             }
+        }
+
+        void merge(int level, int i) {
+            int want = m.merge(level, i);
+            if (want > 0) begun[level]++;
+            call(y -> y.merge(level, i), want);
+        }
+
+        void work(int n) {
+            int want = m.work(n);
+            if (want == FULL) failed++;
+            call(y -> y.work(n), want);
         }
 
         void jobStep() {
             switch (random.nextInt(6)) {
                 case 0:
-                    due("flush()", x.flush(), m.flush());
+                    call(Store::flush, m.flush());
                     break;
                 case 1: {
                     int level = near(0, 2);
-                    int i = near(0, Math.max(0, m.files(level) - 1));
-                    int want = m.merge(level, i);
-                    if (want > 0) begun[level]++;
-                    due("merge(" + level + ", " + i + ")", x.merge(level, i), want);
+                    merge(level, near(0, Math.max(0, m.files(level) - 1)));
                     break;
                 }
-                case 2: case 3: {
-                    int n = chance(50) ? near(1, haste) : near(1, 500);
-                    int want = m.work(n);
-                    if (want == FULL) failed++;
-                    due("work(" + n + ")", x.work(n), want);
+                case 2: case 3:
+                    work(chance(50) ? near(1, haste) : near(1, 500));
                     break;
-                }
                 case 4:
-                    due("install()", x.install(), m.install());
+                    call(Store::install, m.install());
                     break;
                 default:
-                    if (chance(15)) due("stop()", x.stop(), m.stop());
+                    if (chance(15)) call(Store::stop, m.stop());
             }
         }
 
+        /** The job is brought to its end, and the next one begins. */
         void settle() {
-            int left = m.work(500);
-            if (left == FULL) failed++;
-            due("work(500)", x.work(500), left);
-            due("install()", x.install(), m.install());
+            if (m.job && !m.todo.isEmpty()) work(500);
+            if (m.job) call(Store::install, m.install());
             if (crowding && chance(90)) {
                 while (m.log.size() < 18) write();
-                due("flush()", x.flush(), m.flush());
+                call(Store::flush, m.flush());
                 return;
             }
             int high = m.high();
-            due("high()", x.high(), high);
             if (high != NONE && chance(60)) {
-                int i = Math.max(0, random.nextInt(m.files(high)));
-                due("merge(high)", x.merge(high, i), m.merge(high, i));
+                merge(high, random.nextInt(m.files(high)));
             } else if (chance(50)) {
-                due("flush()", x.flush(), m.flush());
+                call(Store::flush, m.flush());
             } else {
-                int level = random.nextInt(3);
-                due("merge(level, 0)", x.merge(level, 0), m.merge(level, 0));
+                merge(random.nextInt(3), 0);
             }
         }
 
         void viewStep() {
             int v = near(0, 2);
             if (chance(60)) {
-                due("hold(" + v + ")", x.hold(v), m.hold(v));
+                call(y -> y.hold(v), m.hold(v));
             } else {
-                due("release(" + v + ")", x.release(v), m.release(v));
+                call(y -> y.release(v), m.release(v));
             }
         }
 
         void readStep() {
             int key = key();
             int v = near(-1, 2);
-            due("get(" + key + ")", x.get(key), m.read(key, Integer.MAX_VALUE));
-            due("view(" + v + ", " + key + ")", x.view(v, key), m.view(v, key));
-            due("next(" + v + ", " + key + ")", x.next(v, key), m.next(v, key));
+            call(y -> y.get(key), m.read(key, Integer.MAX_VALUE));
+            call(y -> y.view(v, key), m.view(v, key));
+            call(y -> y.next(v, key), m.next(v, key));
         }
 
         void tellStep() {
@@ -461,70 +471,94 @@ public final class ModelTest {
             int i = near(0, Math.max(0, m.files(level) - 1));
             int k = near(0, 10);
             int what = near(0, 5);
-            due("files(" + level + ")", x.files(level), m.files(level));
-            due("file", x.file(level, i, what), m.file(level, i, what));
-            due("entry", x.entry(level, i, k, what), m.entry(level, i, k, what));
-            due("log(" + k + ", " + what + ")", x.log(k, what), m.told(m.log, k, what));
+            call(y -> y.files(level), m.files(level));
+            call(y -> y.file(level, i, what), m.file(level, i, what));
+            call(y -> y.entry(level, i, k, what), m.entry(level, i, k, what));
+            call(y -> y.log(k, what), m.told(m.log, k, what));
             int c = near(0, 8);
-            due("count(" + c + ")", x.count(c), m.count(c));
+            call(y -> y.count(c), m.count(c));
             int b = near(0, 1499);
-            due("byteAt(" + b + ")", x.byteAt(b), m.byteAt(b));
+            call(y -> y.byteAt(b), m.byteAt(b));
         }
 
         void rareStep() {
             if (chance(60)) {
-                due("sync()", x.sync(), m.sync());
+                call(Store::sync, m.sync());
             } else if (chance(40)) {
                 int keep = near(0, Math.max(0, m.log.size() - m.synced));
-                due("crash(" + keep + ")", x.crash(keep), m.crash(keep));
+                call(y -> y.crash(keep), m.crash(keep));
             } else {
-                due("check()", x.check(), 0);
+                call(Store::check, 0);
             }
+        }
+
+        /** A store answers 512 calls, so the run is gone through again where one is used up. */
+        void told(Telling.Call question, int want) {
+            if (again == null || again.callsLeft() == 0) {
+                again = new Store();
+                for (Telling.Call call : calls) call.on(again);
+            }
+            due(question.on(again), want);
         }
 
         void tellAll() {
-            for (int what = 0; what < 9; what++) due("all: count(" + what + ")", x.count(what), m.count(what));
-            for (int level = 0; level < 4; level++) {
-                due("all: files(" + level + ")", x.files(level), m.files(level));
-                for (int i = 0; i < m.files(level); i++) {
-                    for (int what = 0; what < 6; what++) due("all: file", x.file(level, i, what), m.file(level, i, what));
-                    for (int k = 0; k < m.file(level, i, 1); k++) {
-                        for (int what = 0; what < 3; what++) {
-                            due("all: entry", x.entry(level, i, k, what), m.entry(level, i, k, what));
-                        }
-                    }
+            for (int c = 0; c < 9; c++) {
+                int what = c;
+                told(y -> y.count(what), m.count(what));
+            }
+            told(Store::check, 0);
+            told(Store::high, m.high());
+            for (int level = 0; level < 4; level++) tellLevel(level);
+            for (int e = 0; e < 3 * m.log.size(); e++) {
+                int at = e;
+                told(y -> y.log(at / 3, at % 3), m.told(m.log, at / 3, at % 3));
+            }
+            for (int b = 0; b < 1500; b++) {
+                int at = b;
+                told(y -> y.byteAt(at), m.byteAt(at));
+            }
+            for (int v = -1; v < 3; v++) tellKeys(v);
+        }
+
+        void tellLevel(int level) {
+            told(y -> y.files(level), m.files(level));
+            for (int f = 0; f < m.files(level); f++) {
+                int i = f;
+                for (int w = 0; w < 6; w++) {
+                    int what = w;
+                    told(y -> y.file(level, i, what), m.file(level, i, what));
+                }
+                for (int e = 0; e < 3 * m.file(level, i, 1); e++) {
+                    int at = e;
+                    told(y -> y.entry(level, i, at / 3, at % 3), m.entry(level, i, at / 3, at % 3));
                 }
             }
-            for (int k = 0; k < m.log.size(); k++) {
-                for (int what = 0; what < 3; what++) due("all: log", x.log(k, what), m.told(m.log, k, what));
+        }
+
+        void tellKeys(int view) {
+            int from = 0;
+            while (from >= 0 && from < 1000) {
+                int key = from;
+                int found = m.next(view, key);
+                told(y -> y.next(view, key), found);
+                if (found >= 0 && view >= 0) told(y -> y.view(view, found), m.view(view, found));
+                if (found >= 0 && view < 0) told(y -> y.get(found), m.read(found, Integer.MAX_VALUE));
+                from = found < 0 ? NONE : found + 1;
             }
-            for (int i = 0; i < 1500; i++) due("all: byteAt(" + i + ")", x.byteAt(i), m.byteAt(i));
-            for (int v = -1; v < 3; v++) {
-                int key = 0;
-                for (int k = 0; k < 1000 && key >= 0 && key < 1000; k++) {
-                    int found = m.next(v, key);
-                    due("all: next(" + v + ", " + key + ")", x.next(v, key), found);
-                    if (found >= 0 && v >= 0) due("all: view", x.view(v, found), m.view(v, found));
-                    if (found >= 0) due("all: get", x.get(found), m.read(found, Integer.MAX_VALUE));
-                    key = found < 0 ? -1 : found + 1;
-                }
-            }
-            due("all: check()", x.check(), 0);
-            due("all: high()", x.high(), m.high());
         }
 
         void go() {
-            for (int k = 0; k < CALLS && wrong < 50; k++) {
+            while (x.callsLeft() > spared && wrong < 50) {
                 int at = random.nextInt(100);
-                if (at < 52) write();
-                else if (at < 68) jobStep();
-                else if (at < 80) settle();
-                else if (at < 85) viewStep();
-                else if (at < 91) readStep();
-                else if (at < 97) tellStep();
+                if (at < 60) write();
+                else if (at < 72) jobStep();
+                else if (at < 86) settle();
+                else if (at < 92) viewStep();
+                else if (at < 94) readStep();
+                else if (at < 95) tellStep();
                 else rareStep();
-                if (k % 128 == 127) tellAll();
             }
+            tellAll();
             deepest = Math.max(deepest, m.files(3));
             fullest = Math.max(fullest, m.count(4));
         }
